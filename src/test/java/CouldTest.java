@@ -51,6 +51,16 @@ public final class CouldTest {
         x = line(6, 4);
         Check.due("too much: most(5, 1, 1, -1)", x.most(5, 1, 1, -1), 0);
         Check.due("too much: most(5, 1, 1, 0)", x.most(5, 1, 1, 0), 0);
+        // One number alone asked otherwise is another question.
+        x = line(5, 4);
+        for (int i = 0; i < 2; i++) {
+            Check.due("turns: most(5, 0, 0, -1)", x.most(5, 0, 0, -1), 0);
+            Check.due("turns: most(5, 0, 1, -1)", x.most(5, 0, 1, -1), 5);
+            Check.due("turns: most(6, 0, 1, -1)", x.most(6, 0, 1, -1), 4);
+            Check.due("turns: most(6, 0, 0, -1)", x.most(6, 0, 0, -1), 0);
+            Check.due("turns: most(6, 1, 0, -1)", x.most(6, 1, 0, -1), 4);
+        }
+        mostByWeights();
         // So many pegs at most, and by which they are best.
         x = Check.den("thing 0 9 99 4 9; thing 56 9 99 4 9; cloth 0 1 2 1 1; cloth 56 1 4 1 1;"
             + "hold 0 0 laid; hold 1 1 laid;");
@@ -65,6 +75,24 @@ public final class CouldTest {
         Check.due("hold(1, 4)", x.hold(1, 4), 1);
         Check.due("thing(1, 0)", x.thing(1, 0), 56);
         Check.due("count(5)", x.count(5), 0);
+    }
+
+    /** A thing that slides from where its room is greater: a book weighs 20 on it, a peg nothing. */
+    private static void mostByWeights() {
+        String den = "cloth 0 1 7 2 1; thing 2 5 W 1 9; hold 0 0 tied;";
+        ChairDen x = Check.den(den.replace("W", "6"));
+        Check.due("heavy enough: most(1, 0, 1, -1)", x.most(1, 0, 1, -1), 4);
+        Check.due("heavy enough: most(1, 1, 1, 0)", x.most(1, 1, 1, 0), 2);
+        Check.due("heavy enough: fewest()", x.fewest(), -1);
+        x = Check.den(den.replace("W", "5"));
+        Check.due("too light: most(1, 0, 1, -1)", x.most(1, 0, 1, -1), 3);
+        Check.due("too light: most(1, 1, 1, 0)", x.most(1, 1, 1, 0), 1);
+        x = Check.den(den.replace("W", "25"));
+        Check.due("with a peg: most(1, 1, 0, -1)", x.most(1, 1, 0, -1), 3);
+        Check.due("with a peg: fewest()", x.fewest(), -1);
+        x = Check.den(den.replace("W", "26"));
+        Check.due("heavy itself: most(1, 1, 0, -1)", x.most(1, 1, 0, -1), 4);
+        Check.due("heavy itself: fewest()", x.fewest(), 1);
     }
 
     private static void mostFromWhatIs() {
@@ -224,6 +252,11 @@ public final class CouldTest {
         Check.due("fasten(0, 2, 7)", x.fasten(0, 2, 7), 2);
         Check.due("by a light book: change(0, 9)", x.change(0, 9), 0);
         Check.due("by a light book: change(0, 10)", x.change(0, 10), -1);
+        // A tie weighs nothing.
+        x = Check.den("thing 0 1 80 5 9; cloth 0 1 1 1 1; hold 0 0 peg;");
+        Check.due("tied it slides: change(0, 41)", x.change(0, 41), -1);
+        x = Check.den("thing 0 1 81 5 9; cloth 0 1 1 1 1; hold 0 0 peg;");
+        Check.due("tied it stays: change(0, 41)", x.change(0, 41), 1);
         // What gave is not tied.
         x = Check.den("thing 0 1 99 99 9; cloth 0 1 1 1 1; cloth 0 1 1 1 1; hold 0 0 peg; hold 1 0 trapped;");
         Check.due("rest(0, 41)", x.rest(0, 41), 1);
@@ -285,6 +318,15 @@ public final class CouldTest {
         Check.due(name + ": tower(" + row.length + ")", x.tower(row.length), -1);
     }
 
+    /** Things of these heights and weights. */
+    private static String things(int[] high, int[] weight) {
+        StringBuilder den = new StringBuilder();
+        for (int t = 0; t < high.length; t++) {
+            den.append("thing ").append(t).append(' ').append(high[t]).append(' ').append(weight[t]).append(" 5 5;");
+        }
+        return den.toString();
+    }
+
     private static void towers() {
         tower("nothing", "", 0);
         tower("one", "thing 5 7 1 1 1;", 7, 0);
@@ -299,6 +341,13 @@ public final class CouldTest {
             12, 0, 1, 2, 3);
         tower("all eight", "thing 0 1 1 1 1; thing 1 1 2 1 1; thing 2 1 4 1 1; thing 3 1 8 1 1; thing 4 1 16 1 1;"
             + "thing 5 1 32 1 1; thing 6 1 64 1 1; thing 7 20 99 1 1;", 27, 6, 7, 4, 5, 2, 3, 0, 1);
+        // Of like heights the first row, though it has a later set of things, or fewer of them.
+        tower("like rows", things(new int[] {1, 4, 4, 4, 2, 1, 2, 1}, new int[] {6, 5, 10, 1, 7, 5, 10, 14}),
+            18, 7, 2, 4, 6, 1, 5, 3);
+        tower("fewer things", things(new int[] {4, 3, 3, 3, 2, 2, 4, 1}, new int[] {5, 14, 22, 7, 18, 10, 14, 13}),
+            19, 2, 1, 5, 3, 0, 6);
+        tower("much fewer", things(new int[] {2, 4, 2, 4, 4, 4, 2, 3}, new int[] {4, 4, 4, 8, 8, 5, 8, 7}),
+            19, 3, 4, 1, 5, 7);
         ChairDen x = Check.den("thing 5 7 1 1 1;");
         Check.due("tower(-2)", x.tower(-2), -1);
         Check.due("tower(MIN)", x.tower(Integer.MIN_VALUE), -1);
@@ -316,6 +365,18 @@ public final class CouldTest {
         Check.due("met(0) of " + want, x.met(0), due);
     }
 
+    /** A room of which one cell is just 5 high: that is high enough, if nothing else is told. */
+    private static void fiveUntold() {
+        ChairDen x = Check.den("thing 27 6 99 99 9; cloth 27 1 2 1 1; hold 0 0 peg;");
+        Check.feed(x, "room 1");
+        Check.due("5 high: want()", x.want(), 0);
+        Check.due("5 high: met(0)", x.met(0), 1);
+        x = Check.den("thing 27 5 99 99 9; cloth 27 1 2 1 1; hold 0 0 peg;");
+        Check.feed(x, "room 1");
+        Check.due("4 high: want()", x.want(), 0);
+        Check.due("4 high: met(0)", x.met(0), 0);
+    }
+
     private static void wants() {
         met("room 0", 1);
         met("room 8", 1);
@@ -330,6 +391,7 @@ public final class CouldTest {
         met("room 8 dark 49", 0);
         met("room 8 door", 1);
         met("room 8 stands", 1);
+        fiveUntold();
         // A room without a door, a den that falls, and wants that stay from den to den.
         ChairDen x = Check.den("thing 27 20 99 99 9; cloth 0 8 8 1 1; hold 0 0 trapped;");
         for (String want : new String[] {"room 60 door", "room 60 high 6", "room 0 stands", "room 60"}) {

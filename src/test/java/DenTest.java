@@ -2,6 +2,7 @@
 public final class DenTest {
     private static final String THING = "thing 0 10 50 50 5;";
     private static final String CLOTH = "cloth 0 1 8 1 1;";
+    private static final String BELOW = "thing 8 18 50 50 5;";
 
     private DenTest() {
     }
@@ -10,6 +11,7 @@ public final class DenTest {
         newObject();
         feeding();
         dens();
+        denBehindDen();
         faultsOfThings();
         faultsOfCloths();
         faultsOfHolds();
@@ -98,6 +100,28 @@ public final class DenTest {
         Check.due("count(1)", x.count(1), 0);
     }
 
+    /** Of the den before nothing is left, though the things stand as they stood in it. */
+    private static void denBehindDen() {
+        ChairDen x = Check.den(THING + CLOTH + "light 9 1; bar 0;" + BELOW + "cloth 8 1 8 1 1;"
+            + "hold 1 1 peg;");
+        Check.due("stands()", x.stands(), 1);
+        Check.due("light(0)", x.light(0), 7);
+        Check.due("most(5, 1, 1, -1)", x.most(5, 1, 1, -1), 7);
+        Check.feed(x, THING + "cloth 0 2 8 1 2;" + BELOW + "cloth 8 1 4 1 1; light 30 1; hold 0 0 peg;");
+        Check.due("den()", x.den(), 1);
+        Check.due("again: hold(0, 5)", x.hold(0, 5), 9);
+        Check.due("again: hold(0, 6)", x.hold(0, 6), 10);
+        Check.due("again: light(0)", x.light(0), 28);
+        Check.due("again: most(5, 1, 1, -1)", x.most(5, 1, 1, -1), 3);
+        Check.due("again: bears(0, 999)", x.bears(0, 999), 0);
+        Check.feed(x, THING + "cloth 0 1 8 1 1;" + BELOW + "hold 0 0 peg;");
+        Check.due("den()", x.den(), 1);
+        Check.due("once more: hold(0, 5)", x.hold(0, 5), 7);
+        Check.due("once more: most(5, 1, 1, -1)", x.most(5, 1, 1, -1), 5);
+        Check.due("once more: light(63)", x.light(63), 60);
+        Check.due("once more: light(7)", x.light(7), 50);
+    }
+
     private static void faultsOfThings() {
         Check.denFine("thing 63 20 99 99 9;", 0);
         Check.denFine("thing 00 01 01 00 01;", 0);
@@ -118,6 +142,10 @@ public final class DenTest {
         Check.denFault("thing laid 1 1 0 1;", 1, 6);
         Check.denFault("things 0 1 1 0 1;", 1, 0);
         Check.denFault("thin 0 1 1 0 1;", 1, 0);
+        Check.denFault("shing 0 1 1 0 1;", 1, 0);
+        Check.denFault("thinz 0 1 1 0 1;", 1, 0);
+        Check.denFault("thingz 0 1 1 0 1;", 1, 0);
+        Check.denFault("thinga 0 1 1 0 1;", 1, 0);
         Check.denFault("Thing 0 1 1 0 1;", 1, 0);
         Check.denFault("thing0 1 1 0 1;thing0 1 1 0 1;", 3, 20);
         Check.denFault("thing 5 1 1 0 1;thing 05 1 1 0 1;", 3, 22);
@@ -245,6 +273,7 @@ public final class DenTest {
         Check.wantFault("   ", 1, 3);
         Check.wantFault("room", 1, 4);
         Check.wantFault("rooms 5", 1, 0);
+        Check.wantFault("5", 1, 0);
         Check.wantFault("room 65", 2, 5);
         Check.wantFault("room 005", 2, 5);
         Check.wantFault("room 5 high 0", 2, 12);

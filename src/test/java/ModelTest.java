@@ -27,7 +27,28 @@ public final class ModelTest {
         for (int run = 0; run < runs && Check.wrongSoFar() < 10; run++) {
             oneRun(run);
         }
+        for (int i = 0; i < 60 && Check.wrongSoFar() < 10; i++) {
+            oneTower();
+        }
         Check.end();
+    }
+
+    /** Many light things, of which not all come into the tower, and of like heights several do. */
+    private static void oneTower() {
+        x = new ChairDen();
+        y = new Model();
+        told = new StringBuilder("tower: ");
+        StringBuilder den = new StringBuilder();
+        int heavy = 1 + draw(20);
+        for (int t = 3 + draw(5); t >= 0; t--) {
+            den.append("thing ").append(t).append(' ').append(1 + draw(4)).append(' ').append(1 + draw(heavy)).append(" 1 1;");
+        }
+        text(den.toString());
+        both("den()", x.den(), y.den());
+        int many = y.count(0) == 8 ? 1 : 8;
+        for (int j = -1; j <= many; j++) {
+            both("tower(" + j + ")", x.tower(j), y.tower(j));
+        }
     }
 
     private static void oneRun(int run) {
@@ -225,8 +246,13 @@ public final class ModelTest {
         }
     }
 
+    private static String lastDen = "";
+
     private static void tellDen(int most) {
-        text(draw(9) == 0 ? "" : denText(most));
+        // Now and then the den before, with some signs changed: nothing of it may be remembered.
+        String next = draw(9) == 0 ? "" : draw(3) == 0 ? spoilt(new StringBuilder(lastDen)) : denText(most);
+        lastDen = next.length() > 20 ? next : lastDen;
+        text(next);
         both("den()", x.den(), y.den());
         both("fault()", x.fault(), y.fault());
         same();
@@ -247,6 +273,11 @@ public final class ModelTest {
         int k = draw(3) == 0 ? -1 : holds();
         both("most(" + h + "," + p + "," + q + "," + k + ")", x.most(h, p, q, k), y.most(h, p, q, k));
         both("most(" + h + "," + p + "," + q + ",-1)", x.most(h, p, q, -1), y.most(h, p, q, -1));
+        if (y.count(2) < 4) {
+            both("most(" + h + "," + p + ",0,-1)", x.most(h, p, 0, -1), y.most(h, p, 0, -1));
+            both("most(" + h + ",0,0,-1)", x.most(h, 0, 0, -1), y.most(h, 0, 0, -1));
+            both("most(1,0,0,-1)", x.most(1, 0, 0, -1), y.most(1, 0, 0, -1));
+        }
     }
 
     /** Heaps that some hold leads to, which draws alone would seldom meet. */
