@@ -61,6 +61,7 @@ public final class CouldTest {
             Check.due("turns: most(6, 1, 0, -1)", x.most(6, 1, 0, -1), 4);
         }
         mostByWeights();
+        mostTogether();
         // So many pegs at most, and by which they are best.
         x = Check.den("thing 0 9 99 4 9; thing 56 9 99 4 9; cloth 0 1 2 1 1; cloth 56 1 4 1 1;"
             + "hold 0 0 laid; hold 1 1 laid;");
@@ -75,6 +76,31 @@ public final class CouldTest {
         Check.due("hold(1, 4)", x.hold(1, 4), 1);
         Check.due("thing(1, 0)", x.thing(1, 0), 56);
         Check.due("count(5)", x.count(5), 0);
+    }
+
+    private static void mostTogether(ChairDen x, int p, int q, int cells, int... row) {
+        Check.due("together: most(6, " + p + ", " + q + ", -1)", x.most(6, p, q, -1), cells);
+        for (int k = 0; k < 3; k++) {
+            Check.due("together: most(6, " + p + ", " + q + ", " + k + ")", x.most(6, p, q, k), row[k]);
+        }
+    }
+
+    /** Three rows of cloth side by side, three cells of room under each that does not give: together one room. */
+    private static void mostTogether() {
+        ChairDen x = Check.den("thing 0 9 99 4 9; thing 8 9 99 4 9; thing 16 9 99 4 9;"
+            + "cloth 0 1 4 1 1; cloth 8 1 4 1 1; cloth 16 1 4 1 1; hold 0 0 tied; hold 1 1 tied; hold 2 2 tied;");
+        mostTogether(x, 0, 0, 0, 0, 0, 0);
+        mostTogether(x, 1, 0, 3, 0, 0, 1);
+        mostTogether(x, 0, 1, 3, 0, 0, 2);
+        mostTogether(x, 2, 0, 6, 0, 1, 1);
+        mostTogether(x, 1, 1, 6, 0, 1, 2);
+        mostTogether(x, 0, 2, 6, 0, 2, 2);
+        mostTogether(x, 3, 0, 9, 1, 1, 1);
+        mostTogether(x, 2, 1, 9, 1, 1, 2);
+        mostTogether(x, 1, 2, 9, 1, 2, 2);
+        mostTogether(x, 0, 3, 9, 2, 2, 2);
+        mostTogether(x, 12, 12, 9, 1, 1, 1);
+        Check.due("together: fewest()", x.fewest(), 3);
     }
 
     /** A thing that slides from where its room is greater: a book weighs 20 on it, a peg nothing. */
