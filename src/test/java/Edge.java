@@ -91,6 +91,19 @@ final class Edge {
         due(name + ", then fault()", x.fault(), before);
     }
 
+    /** Many calls, one behind the other, all of them refused: all that can be seen stays as it was. */
+    static void stillBehind(Start start, String name, List<Call> calls) {
+        for (int from = 0; from < calls.size(); from += 60) {
+            for (int look = 0; look < LOOKS; look++) {
+                ChairDen x = start.made();
+                for (int i = from; i < calls.size() && i < from + 60; i++) {
+                    calls.get(i).on(x);
+                }
+                same(name + ", calls from " + from, x, start.made(), look);
+            }
+        }
+    }
+
     /** Likewise for calls with each of some numbers, all of them refused so. */
     static void refused(Start start, String name, long due, IntCall call, int... numbers) {
         for (int n : numbers) {

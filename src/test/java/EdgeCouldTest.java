@@ -146,6 +146,15 @@ public final class EdgeCouldTest {
         row(x, 8, 0, 1, 1, 0, 2);
         row(x, 8, 0, 0, 0, 0, 0);
         Edge.due("fewest()", x.fewest(), 1);
+        // As it is now, and as it is again by an image of it.
+        x = Check.den("thing 0 9 99 1 9; cloth 0 3 1 1 1; hold 0 0 trapped;");
+        x.keep(1);
+        row(x, 7, 1, 1, 2, 1);
+        Edge.due("rest(0, 9)", x.rest(0, 9), 1);
+        Edge.due("thing(0, 0)", x.thing(0, 0), 8);
+        row(x, 7, 1, 1, 1, 0);
+        x.goBack(1);
+        row(x, 7, 1, 1, 2, 1);
         // Where it lies now, its TOP is 1: no row gives room.
         x = Check.den("thing 0 9 20 99 1; cloth 0 1 2 1 1; hold 0 0 peg;");
         row(x, 8, 1, 0, 1, 0);
@@ -524,6 +533,9 @@ public final class EdgeCouldTest {
         tower("the second alone bears", pile(4, 1, 4, 9), 8, 1, 0);
         // As high by fewer things: the row that begins with the lesser thing.
         tower("by one or by two", pile(2, 1, 2, 4, 2, 99, 4, 99), 10, 2, 3, 1, 0);
+        tower("a later set of things", pile(1, 6, 4, 5, 4, 10, 4, 1, 2, 7, 1, 5, 2, 10, 1, 14), 18, 7, 2, 4, 6, 1, 5, 3);
+        tower("one thing less", pile(4, 5, 3, 14, 3, 22, 3, 7, 2, 18, 2, 10, 4, 14, 1, 13), 19, 2, 1, 5, 3, 0, 6);
+        tower("several less", pile(2, 4, 4, 4, 2, 4, 4, 8, 4, 8, 4, 5, 2, 8, 3, 7), 19, 3, 4, 1, 5, 7);
     }
 
     private static ChairDen wanting(String want) {

@@ -305,6 +305,12 @@ public final class EdgeRestTest {
         tipsAt(20, 99, 9, 44);
         tipsAt(1, 99, 9, 891);
         tipsAt(1, 1, 1, 1);
+        ChairDen x = Check.den("thing 27 20 1 99 1; thing 28 20 1 99 1;");
+        Edge.due("one of two: rest(1, 1)", x.rest(1, 1), 1);
+        Edge.due("one of two: thing(0, 5)", x.thing(0, 5), 0);
+        Edge.due("the other: rest(0, 1)", x.rest(0, 1), 1);
+        Edge.due("both lie: thing(0, 5)", x.thing(0, 5), 1);
+        Edge.due("both lie: thing(1, 5)", x.thing(1, 5), 1);
     }
 
     private static void tipsByPull() {

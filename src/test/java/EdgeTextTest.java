@@ -19,6 +19,7 @@ public final class EdgeTextTest {
         denAnswers();
         denEmpties();
         denStays();
+        denBehindDens();
         eightThings();
         threeCloths();
         twelveHolds();
@@ -193,6 +194,34 @@ public final class EdgeTextTest {
         Edge.due("met(0), 'room 5 high 3 door'", x.met(0), 0);
         Edge.due("met(1), 'room 0 stands'", x.met(1), 1);
         Edge.due("seed(0)", x.seed(0), 77);
+    }
+
+    /** Dens that are nearly alike, one behind the other: each is as it would be on a new object. */
+    private static void denBehindDens() {
+        Edge.of("Promise 3", "THE TEXT becomes THE DEN (nothing is left of those before)");
+        String[] dens = {TWO + CLOTH + "hold 0 0 peg; light 9 1; bar 1;", TWO + "hold 0 0 laid;", TWO.replace("1 8 1 1", "1 4 1 2") + "hold 0 0 peg;",
+            THING + CLOTH, "", TWO + "hold 0 0 book 9;", TWO.replace("50 50 5", "40 50 5") + "hold 0 0 peg; light 30 2;"};
+        ChairDen x = new ChairDen();
+        for (int i = 0; i < 3 * dens.length; i++) {
+            String text = dens[i * i % dens.length];
+            Check.feed(x, text);
+            x.den();
+            x.rest(0, i % 2 == 0 ? 60 : 0);
+            Check.feed(x, dens[i % dens.length]);
+            ChairDen y = Check.den(dens[i % dens.length]);
+            Edge.due("den() " + i, x.den(), y.count(2));
+            long[] got = asked(x);
+            long[] want = asked(y);
+            for (int j = 0; j < want.length; j++) {
+                Edge.due("den " + i + " behind '" + text + "', answer " + j, got[j], want[j]);
+            }
+        }
+    }
+
+    private static long[] asked(ChairDen x) {
+        return new long[] {x.hold(0, 5), x.hold(0, 6), x.hold(0, 4), x.thing(0, 5), x.thing(0, 7), x.count(0), x.count(1),
+            x.count(2), x.count(3), x.most(3, 1, 1, ChairDen.NONE), x.most(3, 1, 1, 0), x.light(0), x.light(63), x.hangs(0, 4),
+            x.hangs(1, 4), x.cells(3), x.weakest(0), x.stands()};
     }
 
     /** Things side by side from a cell on. */
@@ -471,6 +500,9 @@ public final class EdgeTextTest {
         Edge.faulty(two + "hold 0 2 peg;bar 0;bar 2;", 3, n + 23);
         // It is not said to be told once.
         Edge.fine(two + "bar 0;bar 0;", 0);
+        // One bar takes none of another away.
+        Edge.faulty(two + "bar 0;bar 2;hold 0 0 peg;", 3, n + 19);
+        Edge.faulty(two + "bar 0;bar 2;hold 0 2 peg;", 3, n + 19);
         // A bar is gone with its den.
         ChairDen x = Check.den(two + "bar 0;");
         Check.feed(x, two + "hold 0 0 peg;");
@@ -535,7 +567,7 @@ public final class EdgeTextTest {
     /** Words that are nearly this one, all of them none at its first letter. */
     private static String[] otherWords(String word) {
         int n = word.length();
-        return new String[] {word.substring(0, n - 1), word + "x", word + "s", word + word, "x" + word,
+        return new String[] {word.substring(0, n - 1), word + "a", word + "z", word + "s", word + word, "x" + word,
             word.substring(0, 1).toUpperCase() + word.substring(1), word.substring(0, 1) + " " + word.substring(1),
             "a" + word.substring(1), word.substring(0, n - 1) + "z", word.substring(0, n - 1) + "`"};
     }
