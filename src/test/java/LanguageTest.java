@@ -6,8 +6,13 @@ import java.lang.reflect.Method;
 import java.lang.reflect.Modifier;
 import java.nio.file.Files;
 import java.nio.file.Path;
+import java.util.ArrayList;
 import java.util.Arrays;
+import java.util.IdentityHashMap;
+import java.util.List;
+import java.util.Map;
 import java.util.Set;
+import java.util.TreeMap;
 import java.util.TreeSet;
 import java.util.regex.Matcher;
 import java.util.regex.Pattern;
@@ -30,6 +35,8 @@ public final class LanguageTest {
         insides();
         words();
         measures();
+        depths();
+        objects();
         Check.end();
     }
 
@@ -139,24 +146,142 @@ public final class LanguageTest {
             Files.readString(Path.of("src/main/java/ChairDen.java")).chars().allMatch(c -> c > 0 && c < 128) ? 1 : 0, 1);
     }
 
+    /** A method as it stands in the file. */
+    private static final class Part {
+        final String name;
+        final List<String> lines = new ArrayList<>();
+
+        Part(String name) {
+            this.name = name;
+        }
+    }
+
+    /** All methods: those of the class stand four signs in, those of the classes inside eight. */
+    private static List<Part> methods() throws IOException {
+        List<Part> all = new ArrayList<>();
+        Part open = null;
+        String margin = "    ";
+        for (String line : code().split("\n", -1)) {
+            Matcher start = Pattern.compile("^" + margin + "(?=[a-zA-Z])[^=]*?\\b(\\w+)\\(.*\\{$").matcher(line);
+            if (line.startsWith("    private static final class ")) {
+                margin = "        ";
+            } else if (line.equals("    }") && open == null) {
+                margin = "    ";
+            } else if (open == null && start.matches()) {
+                open = new Part(start.group(1));
+                all.add(open);
+            }
+            if (open != null) {
+                open.lines.add(line);
+                open = line.equals(margin + "}") ? null : open;
+            }
+        }
+        return all;
+    }
+
     /** Methods of some sixty lines at most, lines that can be read. */
     private static void measures() throws IOException {
-        String name = "";
-        int first = 0;
+        int most = 0;
+        for (Part method : methods()) {
+            Check.due(method.name + " has sixty lines at most", method.lines.size() <= 60 ? 1 : 0, 1);
+            most = Math.max(most, method.lines.size());
+        }
+        Check.due("methods are seen whole: " + most, most > 20 ? 1 : 0, 1);
         int number = 0;
         for (String line : code().split("\n", -1)) {
             number++;
-            Matcher start = Pattern.compile("^( {4}| {8})(?!private static final class|@)[a-zA-Z].*?(\\w+)\\(.*\\{$")
-                .matcher(line);
-            if (start.matches() && !line.contains(" class ")) {
-                name = start.group(2);
-                first = number;
-            }
-            if (line.matches("^( {4}| {8})\\}$") && !name.isEmpty()) {
-                Check.due(name + " has sixty lines at most", number - first < 60 ? 1 : 0, 1);
-                name = "";
-            }
             Check.due("line " + number + " is not too long", line.length() <= 120 ? 1 : 0, 1);
         }
+    }
+
+    /** Calls by name, methods of one name taken together: so none is deeper than it seems here. */
+    private static void depths() throws IOException {
+        Map<String, Set<String>> calls = new TreeMap<>();
+        int bodies = 0;
+        for (Part method : methods()) {
+            Set<String> of = calls.computeIfAbsent(method.name, k -> new TreeSet<>());
+            bodies++;
+            for (String line : method.lines.subList(1, method.lines.size())) {
+                Matcher call = Pattern.compile("\\b(\\w+)\\(").matcher(line);
+                while (call.find()) {
+                    of.add(call.group(1));
+                }
+            }
+        }
+        int due = ChairDen.class.getDeclaredMethods().length + 1;
+        for (Class<?> c : ChairDen.class.getDeclaredClasses()) {
+            due += (int) Arrays.stream(c.getDeclaredMethods()).filter(m -> !m.isSynthetic()).count();
+            due += c.getSimpleName().equals("Draws") ? 1 : 0;
+        }
+        Check.due("all methods and both constructors that stand there are seen", bodies, due);
+        for (String name : calls.keySet()) {
+            int deep = depth(calls, name, 20);
+            Check.due(name + " calls eight deep at most: " + deep, deep <= 8 ? 1 : 0, 1);
+        }
+    }
+
+    private static int depth(Map<String, Set<String>> calls, String name, int left) {
+        int most = 0;
+        if (left > 0) {
+            for (String next : calls.getOrDefault(name, Set.of())) {
+                most = Math.max(most, depth(calls, next, left - 1));
+            }
+        }
+        return most + 1;
+    }
+
+    /** Objects are made with the den alone, and so few that a room of 600 000 holds many dens. */
+    private static void objects() throws IOException {
+        StringBuilder found = new StringBuilder();
+        for (String line : code().split("\n", -1)) {
+            boolean field = line.matches("^ {4}( {4})?(private )?(final )?\\w+(\\[\\])? \\w+ = (new |\\{new ).*;$");
+            found.append(line.contains("new ") && !field || line.contains("clone(") || line.contains("copyOf") ? line : "");
+        }
+        none("objects are made in fields alone", found.toString());
+        IdentityHashMap<Object, Object> met = new IdentityHashMap<>();
+        long elements = measure(new ChairDen(), met);
+        Check.due("objects and arrays of one den: " + met.size(), met.size() <= 200 ? 1 : 0, 1);
+        Check.due("fields and elements of one den: " + elements, elements <= 20000 ? 1 : 0, 1);
+    }
+
+    private static long measure(Object first, IdentityHashMap<Object, Object> met) {
+        List<Object> open = new ArrayList<>(List.of(first));
+        long elements = 0;
+        met.put(first, first);
+        for (int i = 0; i < open.size(); i++) {
+            Object o = open.get(i);
+            List<Object> parts = new ArrayList<>();
+            if (o.getClass().isArray()) {
+                int n = java.lang.reflect.Array.getLength(o);
+                elements += n;
+                for (int e = 0; e < n && !o.getClass().getComponentType().isPrimitive(); e++) {
+                    parts.add(java.lang.reflect.Array.get(o, e));
+                }
+            } else {
+                elements += fieldsOf(o, parts);
+            }
+            for (Object part : parts) {
+                if (part != null && met.put(part, part) == null) {
+                    open.add(part);
+                }
+            }
+        }
+        return elements;
+    }
+
+    private static int fieldsOf(Object o, List<Object> parts) {
+        int many = 0;
+        for (Field f : o.getClass().getDeclaredFields()) {
+            if (!Modifier.isStatic(f.getModifiers())) {
+                many++;
+                f.setAccessible(true);
+                try {
+                    parts.add(f.getType().isPrimitive() ? null : f.get(o));
+                } catch (IllegalAccessException e) {
+                    Check.due("the field " + f.getName() + " can be seen", 0, 1);
+                }
+            }
+        }
+        return many;
     }
 }
